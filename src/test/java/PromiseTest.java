@@ -599,6 +599,7 @@ public final class PromiseTest {
         replayOfTables();
         replayAtTheEnd();
         replayWithTheSameSum();
+        replayWithSumsAModulusApart();
     }
 
     private static void replayOfTables() {
@@ -639,6 +640,51 @@ public final class PromiseTest {
             }
             Check.same("replay of a shuffle with bits " + bits, x.replay(0), y.count(2) == 5 && sum(y) == sum);
         }
+    }
+
+    /** The bits by which SHUFFLE n makes the row whose place q has the item that came there last from swaps[q]. */
+    private static String shuffleBits(int[] swaps) {
+        StringBuilder bits = new StringBuilder();
+        for (int i = swaps.length - 1; i >= 1; i--) {
+            int width = 32 - Integer.numberOfLeadingZeros(i);
+            bits.append(Integer.toBinaryString((1 << width) + swaps[i]).substring(1));
+        }
+        return bits.toString();
+    }
+
+    private static void setBits(SampleDesk x, String before, String after) {
+        for (int i = 0; i < before.length(); i++) {
+            if (before.charAt(i) != after.charAt(i)) {
+                x.bit(i, after.charAt(i) - '0');
+            }
+        }
+    }
+
+    /** Two places that are d apart and change their items in a row in order lessen the sum by d squared. */
+    private static void replayWithSumsAModulusApart() {
+        int[] swaps = new int[256];
+        for (int i = 0; i < 256; i++) {
+            swaps[i] = i;
+        }
+        String inOrder = shuffleBits(swaps);
+        for (int i = 0; i < 61; i++) {
+            swaps[i + 128] = i;
+        }
+        swaps[85] = 61;
+        swaps[101] = 100;
+        swaps[103] = 102;
+        swaps[105] = 104;
+        Check.due("lessened by", 61 * 128 * 128 + 24 * 24 + 3, 1000003);
+        String swapped = shuffleBits(swaps);
+        SampleDesk x = withBits(inOrder);
+        x.draw(9, 256, 0, 0);
+        Check.due("all in order", x.item(255), 255);
+        Check.holds("as drawn", x.replay(0));
+        setBits(x, inOrder, swapped);
+        Check.holds("a sum that differs by the modulus", x.replay(0));
+        swaps[107] = 106;
+        setBits(x, swapped, shuffleBits(swaps));
+        Check.holds("and one that differs by one more", !x.replay(0));
     }
 
     private static long sum(SampleDesk x) {
